@@ -132,9 +132,14 @@ public final class ChanceTest {
         x.event(3, 4, 2, 0);
         duePart(x, "likely of just as many as may be", x.likely(0, 15), 1, 15265963516L, 30517578125L);
         duePart(x, "chance of just as many as may be", x.chance(0, 15), 1, 15251614609L, 30517578125L);
+        duePart(x, "chance at the beginning", x.chance(0, 0), 1, 1, 1);
         duePart(x, "chance in the midst", x.chance(0, 7), 1, 37969, 78125);
         x = Make.house("r2 m30 d0-1d0-1d0-1d0-1d0-1d0-1d0-1d0-1 w1:*w1:*w1:*");
-        for (int t = 0; t <= 30; t += 15) Check.due("chance(0, " + t + ") SPENT", x.chance(0, t), -6);
+        for (int t = 0; t <= 30; t++) Check.due("chance(0, " + t + ") SPENT", x.chance(0, t), -6);
+        CreakBoards y = Make.house("r6 m30 d0-1d1-2d2-3d3-4d4-5d5-0d0-3d1-4 w2:0w1:*w2:*");
+        for (int t = 0; t <= 30; t++) Check.due("likely(0, " + t + ") SPENT", y.likely(0, t), -6);
+        CreakBoards z = Make.house("r2 m30 d0-1 w1:0 w1:1");
+        for (int t = 0; t <= 30; t++) Check.due("chance(1, " + t + ") SPENT", z.chance(1, t), -6);
         Check.due("finding() of SPENT", x.finding(), 0);
     }
 

@@ -131,10 +131,12 @@ public final class OracleTest {
         due("could() asked()", x.asked(), o.could());
         due("ways()", x.ways(), 0);
         due("many()", x.many(), 0);
-        due("stuck()", x.stuck(), o.stuck());
+        int stuck = o.stuck();
+        due("stuck()", x.stuck(), stuck);
         long stay = o.quarrel();
         due("quarrel()", x.quarrel(), Long.bitCount(stay));
         due("many()", x.many(), stay);
+        due("stuck() behind quarrel()", x.stuck(), stuck);
         due("rooms(0, 0)", x.rooms(0, 0), -3);
         due("third()", x.third(), -3);
     }
@@ -295,9 +297,11 @@ public final class OracleTest {
             houses++;
             drawNight();
             List<Oracle.Walk[]> ways = o.ways();
+            // What asks for other ways must leave what is known of these ways as it is.
+            x.empty(0);
+            whatever();
             if (ways.isEmpty()) cannot();
             else can(ways);
-            whatever();
         }
         System.out.println(houses + " houses: " + could + " nights that can be, " + couldNot + " that cannot");
         Check.yes("nights of both kinds were drawn", could > 300 && couldNot > 300);

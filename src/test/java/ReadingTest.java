@@ -58,6 +58,27 @@ public final class ReadingTest {
         dueHouse(eight + "m3", -9);
     }
 
+    /** What stood in a longer text ahead is no part of a shorter one. */
+    private static void textsAnew() {
+        CreakBoards x = new CreakBoards();
+        Make.text(x, 0, "r2 d0-1 m12 w1:01");
+        for (int size = 17; size > 0; size--) {
+            String text = "r2 d0-1 m12 w1:01".substring(0, size);
+            Make.text(x, 0, text);
+            CreakBoards y = new CreakBoards();
+            Make.text(y, 0, text);
+            Check.due("fault of '" + text + "', anew", x.fault(0, false), y.fault(0, false));
+            if (!text.matches("r2|r2 |r2 d0-1 ?|r2 d0-1 m1|r2 d0-1 m12 ?|r2 d0-1 m12 w1:01?")) {
+                Check.due("fault of '" + text + "', the end", x.fault(0, false), size);
+            }
+        }
+        StringBuilder full = new StringBuilder("r2");
+        while (full.length() < 80) full.append("m1");
+        dueHouse(full.toString(), -9);
+        dueHouse(full.substring(0, 78) + " w", 80);
+        dueHouse(full.substring(0, 78) + "w1", 80);
+    }
+
     private static void minutes() {
         dueHouse("r2 m", 4);
         dueHouse("r2 m ", 4);
@@ -232,6 +253,7 @@ public final class ReadingTest {
     public static void main(String[] args) {
         houses();
         doors();
+        textsAnew();
         minutes();
         walkers();
         nights();

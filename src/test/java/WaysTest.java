@@ -221,6 +221,8 @@ public final class WaysTest {
         Check.due("judge finding() SIZE", x.finding(), 5);
         dueJudge(x, 0, -3, 0, 1, 3, 2, 2);
         Check.due("judge finding() UNLIKE", x.finding(), 3);
+        dueJudge(x, 0, -3, 3, 1, 2, 2, 2);
+        Check.due("judge finding() UNLIKE", x.finding(), 3);
         dueJudge(x, 0, -3, 0, 1, 2, 2, -1);
         Check.due("judge finding() UNLIKE", x.finding(), 3);
         x.tear(4);
@@ -257,6 +259,8 @@ public final class WaysTest {
         x.event(4, 1, 0, 3);
         dueWay(x, 0, 0, 1, 1, 2, 1);
         dueWay(x, 1, 1, 1, 1, 2, 2);
+        dueWay(Make.house("r6 m1 w1:5"), 0, 5, 5);
+        dueWay(Make.house("r6 m2 d4-5 w2:5"), 0, 5, 4, 4);
         long digest = x.digest();
         Check.due("way(2, 5)", x.way(2, 5), -1);
         Check.due("way(0, 6)", x.way(0, 6), -1);
@@ -269,7 +273,33 @@ public final class WaysTest {
         Check.due("refused changes nothing", x.digest(), digest);
     }
 
+    /** Of an object that had another house: nothing of that one is left. */
+    private static void houseBehindHouse() {
+        CreakBoards x = Make.night("r4 m12 D0-1 d1-2 d2-3 d0-1 w2:* w1:* w2:01", "s0@0 s0@7 y2@3 n1@12");
+        x.empty(3);
+        x.passes(0);
+        Check.due("passes(1) of the first house", x.passes(1), 12);
+        Make.text(x, 0, "r2 m3 d0-1 d0-1 w1:0");
+        x.house(0);
+        Check.due("many ways of the next house", x.ways() * x.many(), 27);
+        dueAsked(x, "passes(0) of the next house", x.passes(0), 3, 0);
+        dueAsked(x, "rooms(1, 3) of the next house", x.rooms(1, 3), 0, 1);
+        dueAsked(x, "empty(0) of the next house", x.empty(0), 2, 1);
+        Check.due("still(0, 3) of the next house", x.still(0, 3), 1);
+        Check.due("where(1, 0) of the next house", x.where(1, 0), -1);
+        x.event(4, 0, 0, 2);
+        x.event(4, 1, 0, 2);
+        Check.due("stuck() of the next house", x.stuck(), -9);
+        Make.text(x, 0, "r3 m30 D0-1 D1-2 w1:0 w1:0 w1:2");
+        x.house(0);
+        x.event(2, 2, 0, 30);
+        x.event(1, 0, 0, 29);
+        dueAsked(x, "passes(0) of the third house", x.passes(0), 1, 1);
+        Check.due("whose(1) of the third house", x.whose(1), 3);
+    }
+
     public static void main(String[] args) {
+        houseBehindHouse();
         could();
         fewest();
         ways();
