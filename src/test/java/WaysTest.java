@@ -275,7 +275,7 @@ public final class WaysTest {
 
     /** Of an object that had another house: nothing of that one is left. */
     private static void houseBehindHouse() {
-        CreakBoards x = Make.night("r4 m12 D0-1 d1-2 d2-3 d0-1 w2:* w1:* w2:01", "s0@0 s0@7 y2@3 n1@12");
+        CreakBoards x = Make.night("r4 m12 D0-1 d1-2 d2-3 d0-1 w2:* w1:* w2:01", "s0@3 s0@7 y2@3 n1@12");
         x.empty(3);
         x.passes(0);
         Check.due("passes(1) of the first house", x.passes(1), 12);
