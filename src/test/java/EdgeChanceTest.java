@@ -34,6 +34,15 @@ public final class EdgeChanceTest {
         dueWhose("r2m30D0-1w2:0w2:0", "s0@28s0@29", 0, 3, 0);
         dueWhose("r2m30D0-1w2:0w2:0", "s0@28s0@29y1/1@29", 0, 2, 2);
         dueWhose("r2m30D0-1w2:0w2:0", "s0@28s0@29y1/1@29", 1, 1, 1);
+        Edge.of("29: of the NIGHT that there is now");
+        x = Make.night("r2m2D0-1w1:0w1:0w1:0", "s0@0s0@1");
+        Edge.tells(x, "whose(0)", x.whose(0), 7, 0);
+        x.event(3, 0, 1, 1);
+        Edge.tells(x, "whose(0) behind THIS", x.whose(0), 5, 0);
+        x.event(3, 0, 2, 1);
+        Edge.tells(x, "whose(0) behind another THIS", x.whose(0), 1, 1);
+        x.back(3);
+        Edge.tells(x, "whose(0) behind back()", x.whose(0), 5, 0);
         Edge.of("29: of the last of 24 EVENTS, and of one told twice");
         x = Make.house("r2m30D0-1w1:0w2:0");
         for (int e = 0; e < 22; e++) x.event(4, 1, 0, 3);
@@ -179,6 +188,15 @@ public final class EdgeChanceTest {
         dueThird("r2m5d0-1d0-1d0-1w1:0", "x0@0-0", 1, 5);
         dueThird("r2m5d0-1d0-1", "", 0, 0);
         dueThird("r3m5D0-2d0-1d1-0w1:2", "", 1, 0);
+        Edge.of("31, 32: of a longer night ahead nothing is left");
+        x = Make.night("r2m30d0-1D0-1w1:0", "y0@5y1@6s1@7");
+        Edge.tells(x, "passes(0)", x.passes(0), 29, 1);
+        Edge.tells(x, "third()", x.third(), 0, 28);
+        Make.text(x, 1, "r2m5d0-1D0-1w1:0");
+        x.house(1);
+        Edge.tells(x, "passes(0) of 5", x.passes(0), 5, 0);
+        Edge.tells(x, "passes(1) of 5", x.passes(1), 0, 0);
+        Edge.tells(x, "third() of 5", x.third(), 0, 5);
         Edge.of("32 NONE: no DOOR without one: no DOOR, or all with BOARDS; asked() stays");
         for (String house : new String[] {"r2m5w1:0", "r2m5D0-1w1:0", "r6D0-1D0-1D0-1D0-1D0-1D0-1D0-1D0-1w1:0"}) {
             x = Make.house(house);
@@ -259,6 +277,10 @@ public final class EdgeChanceTest {
         Edge.refused(x, "chance(2, 30) of one more", Edge.SPENT, chanceCall(2, 30));
         x = Make.house("r6m30d0-1d1-2d2-3d3-4d4-5d5-0d0-3d1-4w1:*w1:*w1:*");
         for (int t = 0; t <= 30; t++) Edge.refused(x, "chance(5, " + t + ") of the most", Edge.SPENT, chanceCall(5, t));
+        Edge.of("33 SPENT: all WAYS by one ROOM in the midst");
+        x = Make.night("r2m30" + "d0-1".repeat(8) + "w1:0", "y0@15");
+        for (int t : new int[] {0, 14, 15, 16, 30}) Edge.refused(x, "chance(0, " + t + ")", Edge.SPENT, chanceCall(0, t));
+        for (int t : new int[] {0, 14, 15, 16, 30}) Edge.refused(x, "likely(0, " + t + ")", Edge.SPENT, likelyCall(0, t));
         Edge.of("33 BAD: a ROOM that there is not; a minute that is not 0 .. LAST; ahead of SPENT, NOUGHT");
         for (String night : new String[] {"", CANNOT}) {
             x = Make.night("r2m30d0-1w1:0w1:0", night);

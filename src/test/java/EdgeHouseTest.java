@@ -351,6 +351,25 @@ public final class EdgeHouseTest {
         for (int t : Edge.beyond(4)) Edge.refused(y, "house(" + t + ")", Edge.BAD, () -> y.house(t));
     }
 
+    private static void housesBehindHouses() {
+        Edge.of("11: of the HOUSES ahead nothing is left, nor of the TEXTS that fault() read");
+        CreakBoards x = new CreakBoards();
+        String[] houses = {"r2D0-1D0-1m5w2:1w2:1", "r2d0-1d0-1", "r2D0-1D0-1D0-1m7w2:*", "r2d0-1d0-1d0-1w1:0"};
+        int[][] dues = {{2, 1, 2, 5}, {2, 0, 0, 12}, {3, 1, 1, 7}, {3, 0, 1, 12}};
+        for (int i = 0; i < 12; i++) {
+            int[] due = dues[i % 4];
+            Make.text(x, 3, houses[(i + 2) % 4]);
+            x.fault(3, false);
+            Make.text(x, 3, "r6D0-1D1-2m29w2:*w1:012 d");
+            x.fault(3, false);
+            Make.text(x, 2, houses[i % 4]);
+            Edge.due("house '" + houses[i % 4] + "'", x.house(2), due[0]);
+            for (int d = 0; d < due[0]; d++) dueDoor(x, d, 0, 1, due[1]);
+            Edge.due("WALKERS", x.count(2), due[2]);
+            Edge.due("LAST", x.count(3), due[3]);
+        }
+    }
+
     public static void main(String[] args) {
         blanksAround();
         firstItem();
@@ -362,6 +381,7 @@ public final class EdgeHouseTest {
         manyWalkers();
         faultCall();
         houseCall();
+        housesBehindHouses();
         Edge.end("EdgeHouseTest");
     }
 }

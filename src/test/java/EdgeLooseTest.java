@@ -199,6 +199,9 @@ public final class EdgeLooseTest {
         dueStuck("r3m6D0-1D1-2w1:0", "s0@0y2@2", 101);
         dueStuck("r3m6D0-1D1-2w1:0", "s1@1y2@2", 0);
         dueStuck("r3m6D0-1D1-2w1:0", "y2@2", Edge.NONE);
+        dueStuck("r3m6d0-1D1-2w1:0", "y2@6", 105);
+        dueStuck("r3m6D0-1d1-2w1:0", "y2@6", 4);
+        dueStuck("r3m6d0-1D1-2w1:0", "y2@2", 101);
         dueStuck("r2m6D0-1w2:0", "s0@0y0@2", Edge.NONE);
         dueStuck("r2m6D0-1w2:0", "s0@0y0@3", 2);
         Edge.of("37: no SOUND of it may be from s on");
@@ -207,6 +210,20 @@ public final class EdgeLooseTest {
         dueStuck("r2m6D0-1w1:0", "y1@3s0@3", Edge.NONE);
         dueStuck("r2m6D0-1w1:0", "y1@3s0@2y0@4", 3);
         dueStuck("r2m6D0-1w1:0w1:0", "y1@2y0@2s0@2y1/0@3y1/1@3", Edge.NONE);
+        for (int d = 0; d < 8; d++) {
+            String house = "r2m6" + "d0-1".repeat(d) + "D0-1" + "d0-1".repeat(7 - d) + "w1:0";
+            x = Make.house(house);
+            for (int other = 0; other < 8; other++) if (other != d) x.event(5, other, 5, 0);
+            x.event(2, 0, 0, 6);
+            for (int t = 0; t < 6; t++) {
+                int itsDoor = d;
+                int itsMinute = t;
+                x.event(1, itsDoor, 0, itsMinute);
+                if (t < 5) Edge.plain(x, "stuck(), DOOR " + d + " heard at " + t, 100 * d + 5, () -> x.stuck());
+                else Edge.refused(x, "stuck(), DOOR " + d + " heard at 5", Edge.NONE, () -> x.stuck());
+                x.back(8);
+            }
+        }
         Edge.of("37: the first DOOR: of 0 to 7 (8 DOORS)");
         for (int d = 0; d < 8; d++) {
             dueStuck("r2m30" + "d0-1".repeat(d) + "D0-1".repeat(8 - d) + "w1:0", "y1@30" + shut(d), 100 * d + 29);
@@ -231,13 +248,26 @@ public final class EdgeLooseTest {
         dueStuck("r2m6d0-1w1:0", "y1@6", Edge.STATE);
         x = new CreakBoards();
         Edge.refused(x, "stuck() without a HOUSE", Edge.STATE, () -> x.stuck());
-        Edge.of("37: what was known of the night is known still");
+        Edge.of("37: whatever was asked ahead of it, and behind it");
         x = Make.night("r2m6D0-1w1:0", "y1@3");
-        x.stuck();
-        Edge.tells(x, "could()", x.could(), 0, 3);
-        Edge.due("stuck() again", x.stuck(), 2);
+        for (int i = 0; i < 7; i++) {
+            Edge.due("stuck(), " + i, x.stuck(), 2);
+            switch (i) {
+                case 0: Edge.due("could()", x.could(), 0); break;
+                case 1: Edge.due("asked()", x.asked(), 3); break;
+                case 2: Edge.due("quarrel()", x.quarrel(), 1); break;
+                case 3: Edge.due("cheapest(9, 9)", x.cheapest(9, 9), 9); break;
+                case 4: Edge.due("settle(9, 9, 9)", x.settle(9, 9, 9), 1); break;
+                case 5: Edge.due("fewest()", x.fewest(), -9); break;
+                default: Edge.due("ways()", x.ways(), 0);
+            }
+        }
         x.back(0);
         Edge.tells(x, "passes(0)", x.passes(0), 0, 0);
+        x = Make.night("r3m6D0-1D1-2w1:01", "y0@0y2@6");
+        Edge.refused(x, "stuck() ahead of quarrel()", Edge.NONE, () -> x.stuck());
+        Edge.due("quarrel()", x.quarrel(), 1);
+        Edge.refused(x, "stuck() behind quarrel()", Edge.NONE, () -> x.stuck());
     }
 
     private static String shut(int doors) {

@@ -61,6 +61,10 @@ public final class EdgeWhoTest {
         Edge.of("25: 2 they must, at another minute in each WAY");
         dueMet("r2m3d0-1w1:0w1:1", "y1/0@3y1/1@3x0@1-1", 2, 1);
         dueMet("r2m2d0-1w1:0w1:1", "y1/0@2x0@1-1y1/1@1", 2, 1);
+        Edge.of("25: 2 they must, in minute 0 alone");
+        dueMet("r2m1d0-1w1:0w1:0", "", 2, 0);
+        dueMet("r2m30d0-1w1:1w2:1", "y0/0@1", 2, 0);
+        dueMet("r2m2d0-1w1:0w1:0", "y1/0@1y0/1@1y1/0@2y0/1@2", 2, 0);
         Edge.of("25: 1 they may");
         dueMet("r2m1d0-1w1:0w1:1", "", 1, 1);
         dueMet("r2m5w1:*w1:*", "", 1, 0);
@@ -245,6 +249,11 @@ public final class EdgeWhoTest {
             x.row(3, n);
             Edge.found(x, "judge(0, 3) of " + n + ", LAST 30", Edge.SIZE, judgeCall(0, 3));
         }
+        Edge.of("27: what stood in a longer ROW ahead is not looked at");
+        x = Make.house("r3m3w1:0");
+        lay(3, 9, 9, 9, 9, 9, 9);
+        lay(3, 0, 0, 0, 0);
+        Edge.refused(x, "judge(0, 3)", Edge.NONE, judgeCall(0, 3));
         Edge.of("27 NOTHING: a ROW that is missing; ahead of SIZE and NOUGHT");
         for (String night : new String[] {"", CANNOT}) {
             x = Make.night("r3m3w1:0", night);
